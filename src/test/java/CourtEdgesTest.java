@@ -23,6 +23,8 @@ public final class CourtEdgesTest {
         tests();
         sums();
         depth();
+        deepestLaws();
+        longestLaws();
         facts();
         whatIsSo();
         wrapping();
@@ -32,6 +34,8 @@ public final class CourtEdgesTest {
         kindsOfFaults();
         theLeastKind();
         withoutFault();
+        fromThenOn();
+        namesFromThenOn();
         withFault();
         edges.end();
     }
@@ -355,6 +359,48 @@ public final class CourtEdgesTest {
         edges.courtFault("fades (((((|1)))));", 5);
     }
 
+    // A sign of each rank is half done, on every level, when the innermost PART comes.
+    private static String deepest(int levels, int innermost) {
+        String law = String.valueOf(innermost);
+        for (int i = 0; i < levels; i++) {
+            law = "0 or 0 < 0 + 1 * " + (i == 0 ? law : "(" + law + ")");
+        }
+        return law;
+    }
+
+    private static void deepestLaws() {
+        edges.says("no PART lies within 5 of not and ( )");
+        for (int levels = 1; levels <= 5; levels++) {
+            law(deepest(levels, 7), 1);
+            law(deepest(levels, 0), 0);
+        }
+        String beyond = "reads " + deepest(6, 7);
+        edges.courtFault(beyond.replace("(0 or 0 < 0 + 1 * 7", "(|0 or 0 < 0 + 1 * 7"), 5);
+    }
+
+    private static void longestLaws() {
+        edges.says("The TAPE has at most 1,000 signs");
+        String man = "courtier a plain at 0 loyal 0;";
+        // As many signs as there is room for, each a token: 1 + 1 - 1 + 1 .. comes to 2 or 1.
+        int room = 1000 - man.length() - "fades 1;reads 1;".length();
+        String steps = "+1-1".repeat(room / 4);
+        for (String text : new String[] {man + "reads 1" + steps + ";fades 1;", man + "fades 1;reads 1" + steps + ";"}) {
+            ShakingCourt x = edges.court(text);
+            // Told again and again, it is the same.
+            for (int i = 0; i < 4; i++) {
+                edges.due("told again", Check.tellCourt(x, text), 0);
+                edges.due("reads", x.beat(), 1);
+                x.touch(1, 20);
+                edges.due("fades", x.later(0, 1), 9);
+            }
+            String other = man + "fades 1" + steps + "+1;reads 3;";
+            edges.due("the other law is the long one", Check.tellCourt(x, other), 0);
+            edges.due("reads 3", x.beat(), 3);
+            x.touch(1, 20);
+            edges.due("fades 2", x.later(0, 1), 8);
+        }
+    }
+
     private static void facts() {
         edges.says("Facts: wave (of fades what comes to a CELL; of reads how it shakes), warm (the beat's heat), time (the beat's number).");
         ShakingCourt x = edges.court("cells 3;fades wave - 4;reads wave;courtier a plain at 1 loyal 9;");
@@ -550,6 +596,48 @@ public final class CourtEdgesTest {
         edges.due("felt stays", z.count(9), felt);
         edges.due("steps stay", z.count(10), steps);
         edges.due("the mark stays", z.mark(2, true), true);
+    }
+
+    // Whatever an earlier court told, or was asked for, is gone.
+    private static void fromThenOn() {
+        edges.says("a COURT is the COURT from then on");
+        ShakingCourt x = edges.court("cells 3;heat 5 4 3;fades 0;reads 7;courtier a plain at 1 loyal 0;");
+        String[] laws = {"", "fades 3;", "fades warm;", "fades 0;reads 5;", "heat 4;fades warm;reads heart;", ""};
+        int[] fades = {1, 3, 2, 0, 4, 1};
+        int[] reads = {9, 7, 8, 5, 0, 9};
+        for (int i = 0; i < laws.length; i++) {
+            edges.due("told " + laws[i], Check.tellCourt(x, "cells 3;" + laws[i] + "courtier a plain at 1 loyal 0;"), 0);
+            x.touch(0, 20);
+            edges.due("fades, asked for, by " + laws[i], x.later(1, 1), 10 - fades[i]);
+            edges.due("reads by " + laws[i], x.beat(), reads[i]);
+            edges.due("fades by " + laws[i], x.shake(1), 10 - fades[i]);
+        }
+        edges.due("heats are told", Check.tellCourt(x, "heat 5 4 3;"), 0);
+        edges.due("and then not", Check.tellCourt(x, "cells 3;"), 0);
+        for (int beat = 0; beat < 7; beat++) {
+            edges.due("heat of beat " + beat, x.count(3), 2);
+            x.beat();
+        }
+    }
+
+    private static void namesFromThenOn() {
+        edges.says("2 a NAME of no COURTIER told");
+        ShakingCourt x = edges.court(men(6));
+        edges.due("of six, none", Check.tellReign(x, "change na ng;"), 2 + 16 * 10);
+        edges.due("of six, the last", Check.tellReign(x, "change na nf;"), 0);
+        for (int many = 5; many >= 1; many--) {
+            edges.due("told again, fewer", Check.tellCourt(x, men(many)), 0);
+            String gone = "n" + (char) ('a' + many);
+            edges.due("one of the earlier court", Check.tellReign(x, "change na " + gone + ";"), 2 + 16 * 10);
+        }
+
+        edges.says("3 a NAME told already");
+        for (int many = 1; many <= 6; many++) {
+            edges.due("told again", Check.tellCourt(x, men(many)), 0);
+            edges.due("by an earlier court it is not", Check.tellCourt(x, men(many)), 0);
+            edges.due("a fault", Check.tellCourt(x, men(many) + "#") > 0, true);
+            edges.due("nor by one that was wrong", Check.tellCourt(x, men(many)), 0);
+        }
     }
 
     private static void withFault() {

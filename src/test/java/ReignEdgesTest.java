@@ -35,6 +35,8 @@ public final class ReignEdgesTest {
         shakes();
         courtiers();
         marks();
+        marksOfFelt();
+        manyCalls();
         counts();
         edges.end();
     }
@@ -673,6 +675,57 @@ public final class ReignEdgesTest {
         edges.due("one step", y.undo(), true);
         edges.due("no further", y.undo(), false);
         edges.due("as laid again", Edges.state(y), seen);
+    }
+
+    private static void marksOfFelt() {
+        edges.says("MARKS 0 to 3 hold all that UNDO brings back, what is FELT");
+        ShakingCourt x = edges.court("cells 5;fades 0;");
+        x.mark(0, false);
+        edges.due("felt", x.feel(1, 0, 7), true);
+        x.mark(1, false);
+        x.mark(0, true);
+        edges.due("nothing felt", x.count(9), 0);
+        edges.due("all ways", x.ways(0), 100);
+        // The same number is felt, but another cell, another beat, another shake.
+        edges.due("felt, something else", x.feel(3, 1, 10), true);
+        x.mark(2, false);
+        edges.due("ways of that", x.ways(1), 20);
+        x.mark(1, true);
+        edges.due("one is felt", x.count(9), 1);
+        edges.due("how many ways", x.ways(0), 1);
+        edges.due("cells of the first", x.ways(1), 2);
+        edges.due("forces of the first", x.ways(2), 7);
+        x.mark(2, true);
+        edges.due("cells of the second", x.ways(1), 20);
+        edges.due("forces of the second", x.ways(2), 20);
+        // What is felt behind does not come on the mark.
+        for (int i = 0; i < 7; i++) {
+            edges.due("felt", x.feel(0, 0, 99), true);
+        }
+        edges.due("no more", x.feel(0, 0, 99), false);
+        edges.due("no way", x.ways(0), 0);
+        x.mark(2, true);
+        edges.due("one again", x.count(9), 1);
+        edges.due("cells again", x.ways(1), 20);
+    }
+
+    private static void manyCalls() {
+        edges.says("An object is used for at most 512 calls after it has been made");
+        ShakingCourt x = edges.court("cells 3;heat 1 2 3 4 5;fades (time < 491) * 99;reads 99 * (time < 490);courtier a spoon at 0 loyal 0;");
+        boolean all = true;
+        for (int beat = 0; beat < 490; beat++) {
+            all &= x.beat() == 198;
+        }
+        edges.due("each beat", all, true);
+        edges.due("beats", x.count(2), 490);
+        edges.due("heat", x.count(3), 1);
+        edges.due("done", x.count(7), 490 * 198);
+        x.touch(0, 20);
+        edges.due("the law of beat 490", x.later(1, 1), 0);
+        edges.due("nothing is done by it", x.beat(), 0);
+        x.touch(0, 20);
+        edges.due("the law of beat 491", x.later(1, 1), 10);
+        edges.due("nothing more is done", x.total(0, 60), 0);
     }
 
     private static void counts() {

@@ -17,6 +17,7 @@ public final class SightEdgesTest {
         nudgeBeats();
         nudgeEqualOnes();
         nudgeOthers();
+        nudgeInTwelve();
         guard();
         guardInTwentyBeats();
         swap();
@@ -29,12 +30,16 @@ public final class SightEdgesTest {
         waysOthers();
         look();
         lookBeats();
+        lookForces();
+        lookInTwelve();
         reach();
+        reachWhereItShakes();
         reachAtTheEdge();
         calmest();
         lazy();
         post();
         postInTwentyBeats();
+        postWhereItIsStill();
         rises();
         nothingElse();
         edges.end();
@@ -257,6 +262,21 @@ public final class SightEdgesTest {
         x.fork(0);
         nudge(x, 1, 0, 9, 1, 1);
         nudge(x, 1, 1, 1, -1, -1);
+    }
+
+    private static void nudgeInTwelve() {
+        edges.says("by none.");
+        ShakingCourt x = edges.court("cells 12;fades 0;");
+        nudge(x, 11, 0, 21, -1, -1);
+        nudge(x, 0, 1, 11, -1, -1);
+        nudge(x, 10, 1, 10, 20, 9);
+        nudge(x, 11, 0, 20, 20, 11);
+        for (int cell = 0; cell < 11; cell++) {
+            x.fork(cell);
+        }
+        nudge(x, 11, 0, 20, 20, 11);
+        nudge(x, 11, 0, 21, -1, -1);
+        nudge(x, 11, 1, 1, -1, -1);
     }
 
     private static void guard() {
@@ -544,6 +564,59 @@ public final class SightEdgesTest {
         }
     }
 
+    // Cell 0 alone was touched, by one of two forces that bring the same beside it.
+    private static int lookOf(int base, int shake) {
+        ShakingCourt x = edges.court("cells 3;fades 0;");
+        Edges.raise(x, 0, base);
+        x.feel(1, 1, shake);
+        x.feel(1, 0, 0);
+        x.feel(2, 0, 0);
+        return x.look(0);
+    }
+
+    private static void lookForces() {
+        edges.says("TOUCHED now by an unknown force (1 to 20)");
+        edges.due("0 or 1: it is 1", lookOf(0, 0), -1);
+        edges.due("1 or 2", lookOf(1, 1), 0);
+        edges.due("2 or 3", lookOf(0, 1), 0);
+        edges.due("18 or 19", lookOf(0, 9), 0);
+        edges.due("19 or 20", lookOf(1, 10), 0);
+        edges.due("20 or 21: it is 20", lookOf(0, 10), -1);
+        edges.due("21 or 22: none", lookOf(1, 11), -1);
+    }
+
+    private static void lookInTwelve() {
+        edges.says("the CELL for which the greatest number of WAYS by which it shakes alike then is the least, if that is less than all");
+        for (int cell = 0; cell < 12; cell++) {
+            ShakingCourt x = edges.court("cells 12;fades 0;");
+            for (int other = 0; other < 12; other++) {
+                Edges.raise(x, other, other == cell ? 79 : 99);
+            }
+            edges.due("99 by 99, but for cell " + cell, x.look(0), cell);
+            Edges.raise(x, cell, 20);
+            edges.due("99 all over", x.look(0), -1);
+            edges.due("99 all over, 12 beats on", x.look(12), -1);
+        }
+    }
+
+    private static void reachWhereItShakes() {
+        edges.says("REACH of one CELL by another one (neither cracked): behind how many (0 to 20) BEATS it shakes otherwise");
+        ShakingCourt x = edges.court("cells 12;fades 0;");
+        Edges.raise(x, 0, 40);
+        // What it does without the touch, too, is not otherwise.
+        edges.due("beside one that shakes", x.reach(1, 3), 2);
+        edges.due("four off", x.reach(0, 4), 4);
+        edges.due("itself", x.reach(0, 0), 0);
+        edges.due("by the one that shakes", x.reach(1, 0), 1);
+        x.fork(2);
+        x.fork(11);
+        edges.due("it goes up and down behind a wall", x.reach(0, 4), -1);
+        edges.due("and beside it", x.reach(1, 4), -1);
+        edges.due("within the walls", x.reach(0, 1), 1);
+        x.undo();
+        edges.due("one wall is open again", x.reach(0, 10), 2);
+    }
+
     private static void reach() {
         edges.says("behind how many (0 to 20) BEATS it shakes otherwise, for the first time, if the other one is TOUCHED by 20 now.");
         ShakingCourt x = edges.court("cells 12;fades 0;");
@@ -696,6 +769,17 @@ public final class SightEdgesTest {
         edges.due("not by the next one", y.post(0), 0);
         y.beat();
         edges.due("a beat on", y.post(0), 1);
+    }
+
+    private static void postWhereItIsStill() {
+        edges.says("were he there now; of equal ones the first.");
+        for (int cells = 3; cells <= 12; cells++) {
+            String text = "cells " + cells + ";fades 0;reads not wave;courtier a plain at 1 loyal 0;";
+            edges.due("all shake, none is better", edges.shaking(text, 9).post(0), 0);
+            ShakingCourt x = edges.shaking(text, 9);
+            x.fork(cells - 1);
+            edges.due("at a cracked one, the last, nothing shakes", x.post(0), cells - 1);
+        }
     }
 
     private static void rises() {
