@@ -500,6 +500,17 @@ public final class CourtEdgesTest {
         edges.courtFault("courtier a maid at |12 loyal 10", 4);
         edges.courtFault(man("a") + "courtier |a king at 12", 3);
         edges.courtFault(men(6) + "|courtier na king", 5);
+        // A token left out: the next one can't stand there, and is wrong by that alone or first.
+        edges.courtFault("courtier |plain at 12 loyal 10;", 1);
+        edges.courtFault("courtier a |at 12 loyal 10;", 1);
+        edges.courtFault("courtier a plain |12 loyal 10;", 1);
+        edges.courtFault("courtier a plain at |loyal 10;", 1);
+        edges.courtFault("courtier a plain at 0 |10;", 1);
+        edges.courtFault("courtier a plain at 0 loyal |; cells 2;", 1);
+        edges.courtFault("courtier a plain at 0 loyal 0 |cells 2;", 1);
+        edges.courtFault("reads (1|; cells 2;", 1);
+        edges.courtFault("reads 1 + |; cells 2;", 1);
+        edges.courtFault("heat |; cells 2;", 1);
     }
 
     private static void kindsOfFaults() {
@@ -551,6 +562,19 @@ public final class CourtEdgesTest {
         edges.courtFault("fades (((((|and", 1);
         edges.courtFault("fades (((((|", 1);
         edges.courtFault(men(6) + "|courtierx", 1);
+        // A line's word, told already or one too many, where no line begins.
+        edges.courtFault("cells 3 |cells 3;", 1);
+        edges.courtFault("heat 3 |heat 3;", 1);
+        edges.courtFault("fades 3 |fades 3;", 1);
+        edges.courtFault("reads 3 |reads 3;", 1);
+        edges.courtFault("cells |cells 3;", 1);
+        edges.courtFault("heat |heat 3;", 1);
+        edges.courtFault("fades |fades 3;", 1);
+        edges.courtFault(men(5) + "courtier nf plain at 0 loyal 0 |courtier", 1);
+        edges.reignFault("", "turn;".repeat(39) + "turn |turn;", 1);
+        edges.reignFault("", "turn;".repeat(39) + "touch 0 1 |turn;", 1);
+        edges.reignFault(man("a"), "change |beat a;", 1);
+        edges.reignFault(man("a"), "change a |beat;", 1);
     }
 
     private static ShakingCourt livedIn() {

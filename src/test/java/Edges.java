@@ -71,13 +71,23 @@ final class Edges {
         due("reign " + text, Check.tellReign(x, text), 0);
     }
 
-    /** A sign | stands ahead of the token that is wrong. */
+    /** A sign | stands ahead of the token that is wrong; what is wrong behind it does not matter. */
     void courtFault(String marked, int kind) {
-        due("court " + marked, Check.tellCourt(new ShakingCourt(), unmarked(marked)), faultAt(marked, kind));
+        for (String behind : wrongBehind(marked, "; cells 2;", " 99 cells #")) {
+            due("court " + marked + behind, Check.tellCourt(new ShakingCourt(), unmarked(marked) + behind), faultAt(marked, kind));
+        }
     }
 
     void reignFault(String court, String marked, int kind) {
-        due("reign " + marked, Check.tellReign(court(court), unmarked(marked)), faultAt(marked, kind));
+        for (String behind : wrongBehind(marked, "; touch 12 0;", " 99 turn #")) {
+            due("reign " + marked + behind, Check.tellReign(court(court), unmarked(marked) + behind), faultAt(marked, kind));
+        }
+    }
+
+    // Behind a fault at the end there is nothing.
+    private static String[] wrongBehind(String marked, String line, String tokens) {
+        boolean atEnd = marked.endsWith("|");
+        return atEnd ? new String[] {""} : new String[] {"", line, tokens};
     }
 
     private static String unmarked(String marked) {

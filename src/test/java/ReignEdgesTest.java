@@ -61,6 +61,10 @@ public final class ReignEdgesTest {
         for (String marked : wrong) {
             edges.reignFault(TWO, marked, 1);
         }
+        for (String word : "cells courtier at loyal heat fades reads plain spoon child maid not and or wave warm time heart a".split(" ")) {
+            edges.reignFault(TWO, "|" + word + ";", 1);
+            edges.reignFault(TWO, "beat;|" + word + " 0;", 1);
+        }
     }
 
     private static void cellsTold() {
@@ -108,6 +112,12 @@ public final class ReignEdgesTest {
         edges.reign(x, "beat;".repeat(40));
         edges.due("40", x.count(8), 40);
         edges.reign(x, "touch 10 10;".repeat(40));
+        // The fortieth is judged as any other.
+        ShakingCourt y = edges.court("cells 3;");
+        edges.reign(y, "turn;".repeat(37) + "touch 0 1;touch 1 1;touch 2 1;");
+        edges.due("all shake behind the fortieth", y.judged(1), 39);
+        edges.reign(y, "turn;".repeat(37) + "touch 0 1;touch 1 1;touch 3 1;");
+        edges.due("the fortieth can't be", y.judged(0), 39);
         for (String line : new String[] {"touch 0 1;", "breathe 0;", "fork 0;", "turn;", "change a b;", "beat;", "touch"}) {
             edges.reignFault(TWO, "beat;".repeat(40) + "|" + line, 5);
         }
@@ -498,6 +508,17 @@ public final class ReignEdgesTest {
             edges.due("undo", x.undo(), true);
             edges.due("as ahead of act " + act, Edges.state(x), seen[act]);
         }
+        ShakingCourt six = edges.shaking("cells 12;reads 1 + heart;courtier a plain at 0 loyal 0;courtier b plain at 1 loyal 1;"
+            + "courtier c plain at 2 loyal 2;courtier d plain at 3 loyal 3;courtier e plain at 4 loyal 4;courtier f plain at 5 loyal 5;", 1);
+        six.beat();
+        String ahead = Edges.state(six);
+        edges.due("what six do", six.beat(), 21);
+        six.change(0, 5);
+        six.fork(11);
+        for (int i = 0; i < 3; i++) {
+            edges.due("undo", six.undo(), true);
+        }
+        edges.due("all six, all twelve are as ahead", Edges.state(six), ahead);
         // What is told or felt is none of these.
         Check.tellReign(x, "beat;");
         x.feel(0, 0, 0);
@@ -591,6 +612,20 @@ public final class ReignEdgesTest {
         String seen = Edges.seen(x);
         x.judged(2);
         edges.due("all is as ahead", Edges.seen(x), seen);
+        // What was cracked in the judging is not cracked in what is asked next.
+        edges.reign(x, "fork 0;fork 1;fork 2;");
+        x.judged(0);
+        edges.due("the least touch, of the first", x.nudge(0, 0, 1, 0), 1);
+        x.judged(0);
+        edges.due("a fork in the first", x.guard(0), 0);
+        x.judged(0);
+        edges.due("ways", x.ways(0), 60);
+        x.judged(0);
+        edges.due("the first parts them", x.look(0), 0);
+        x.judged(0);
+        edges.due("the calmest", x.calmest(0), 0);
+        x.judged(0);
+        edges.due("reached", x.reach(0, 1), 1);
     }
 
     private static void shakes() {
@@ -698,6 +733,24 @@ public final class ReignEdgesTest {
         x.mark(2, true);
         edges.due("cells of the second", x.ways(1), 20);
         edges.due("forces of the second", x.ways(2), 20);
+        // All eight come back, the eighth, too.
+        ShakingCourt y = edges.court("cells 5;fades 0;");
+        y.mark(3, false);
+        for (int i = 0; i < 7; i++) {
+            y.feel(4, 0, 0);
+        }
+        y.feel(2, 1, 10);
+        y.mark(0, false);
+        edges.due("ways of eight", y.ways(1), 10);
+        y.mark(3, true);
+        for (int i = 0; i < 8; i++) {
+            y.feel(0, 0, 5);
+        }
+        edges.due("ways of eight others", y.ways(1), 1);
+        y.mark(0, true);
+        edges.due("eight again", y.count(9), 8);
+        edges.due("ways of the first eight", y.ways(1), 10);
+        edges.due("how many", y.ways(0), 2);
         // What is felt behind does not come on the mark.
         for (int i = 0; i < 7; i++) {
             edges.due("felt", x.feel(0, 0, 99), true);

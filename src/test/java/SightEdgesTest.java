@@ -315,6 +315,17 @@ public final class SightEdgesTest {
         ShakingCourt x = edges.shaking(text.replace("#", "20"), 99);
         x.beat();
         edges.due("a beat on", x.guard(0), 6);
+        // He has something to do whatever is forked, and has done something.
+        ShakingCourt z = edges.court("cells 12;fades 0;reads wave + 1;courtier a plain at 6 loyal 0;");
+        Edges.raise(z, 3, 99);
+        Edges.raise(z, 11, 40);
+        z.beat();
+        // Of what shakes at 2 and 4 the nearer one matters, and he has nothing at all at a cracked one of his own.
+        edges.due("his own", z.guard(0), 6);
+        z.fork(6);
+        edges.due("his own is cracked: all are equal", z.guard(0), 0);
+        z.fork(0);
+        edges.due("the next one", z.guard(0), 1);
         // A fork may make him do more, too: the least is looked for.
         ShakingCourt y = edges.shaking("cells 3;fades 0;courtier a child at 1 loyal 0;", 30);
         edges.due("a child has nothing where it shakes more", y.total(0, 20), 0);
@@ -359,6 +370,16 @@ public final class SightEdgesTest {
             + "courtier d plain at 2 loyal 0;courtier e maid at 3 loyal 0;courtier f plain at 5 loyal 0;");
         w.touch(0, 20);
         edges.due("4 and 5", w.swap(), 32 + 5);
+        // As much as all do without is no gain, 1 more is.
+        for (int read = 0; read <= 5; read++) {
+            ShakingCourt v = edges.court("cells 6;fades 9;reads " + read + ";courtier a plain at 1 loyal 0;courtier b maid at 3 loyal 0;");
+            edges.due("nothing more by " + read, v.swap(), -1);
+            v.beat();
+            v.touch(0, 20);
+            edges.due("1 more by " + read, v.swap(), 1);
+            v.change(0, 1);
+            edges.due("1 less by " + read, v.swap(), -1);
+        }
         edges.due("alone", edges.court("courtier a maid at 2 loyal 0;").swap(), -1);
         edges.due("nobody", new ShakingCourt().swap(), -1);
     }
@@ -627,8 +648,14 @@ public final class SightEdgesTest {
         }
         // 20, 10, 5, 2, 1, 0: five off it does not come, even from both sides.
         edges.due("five off", x.reach(0, 5), -1);
-        edges.due("a touch of 20, not of 21", edges.court("cells 3;fades 10;").reach(0, 1), -1);
+        edges.due("a touch of 20, not of 22", edges.court("cells 3;fades 10;").reach(0, 1), -1);
         edges.due("a touch of 20, not of 19", edges.court("cells 3;fades 9;").reach(0, 1), 1);
+        // With the 1 that is there, 21 would bring 11.
+        ShakingCourt one = edges.court("cells 3;fades 10;");
+        one.touch(1, 1);
+        edges.due("a touch of 20, not of 21", one.reach(0, 1), -1);
+        one.touch(1, 1);
+        edges.due("with a touch of 1 more", one.reach(0, 1), 1);
         ShakingCourt full = edges.shaking("cells 3;fades 0;", 99);
         edges.due("99 can't be more", full.reach(0, 0), -1);
         full.breathe(0);
