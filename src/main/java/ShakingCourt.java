@@ -445,7 +445,8 @@ public final class ShakingCourt {
             if (place >= length) {
                 kind = END;
             } else if (isLetter(signs[place])) {
-                readWord();
+                readName();
+                kind = next - place > WORD_SIGNS ? NO_TOKEN : wordNumber();
             } else if (isDigit(signs[place])) {
                 readNumber();
             } else {
@@ -455,13 +456,12 @@ public final class ShakingCourt {
             }
         }
 
-        private void readWord() {
+        private void readName() {
             name = 0;
             while (next < length && isLetter(signs[next])) {
                 name = name << 8 | signs[next];
                 next++;
             }
-            kind = next - place > WORD_SIGNS ? NO_TOKEN : wordNumber();
         }
 
         private void readNumber() {
